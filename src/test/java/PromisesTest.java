@@ -349,6 +349,10 @@ public final class PromisesTest {
         fault("shames 00000;", 7);
         fault("shames foo;", 7);
         fault("shames ages;", 7);
+        fault("shames boing;", 7);
+        fault("shames doingz;", 7);
+        fault("shames doinga;", 7);
+        fault("shames 1 ors 1;", 9);
         fault("shames Doing;", 7);
         fault("shames costs;", 7);
         fault("shamesdoing;", 0);
@@ -423,6 +427,10 @@ public final class PromisesTest {
         comes("2 or 0", 1, 1);
         comes("0 or 0", 0, 0);
         comes("2 and 4", 1, 1);
+        comes("1 and 1", 1, 1);
+        comes("0 and 1", 0, 0);
+        comes("1 and 0", 0, 0);
+        comes("0 or 1", 1, 1);
         comes("1 or 0 and 0", 1, 1);
         comes("not 5", 0, 0);
         comes("not 0", 1, 1);
@@ -527,6 +535,60 @@ public final class PromisesTest {
         due("all(-1)", x.all(-1), UNASKED);
         due("all(MIN)", x.all(MIN), UNASKED);
         silenceTells();
+        nothingStandsAheadOfTheFirst();
+        learntAnew();
+    }
+
+    /** Of STEP 0 last is 0, whatever is asked of all lives. */
+    private static void nothingStandsAheadOfTheFirst() {
+        ToldByWitnesses x = made(1, 0, 0, 0, 0, 0);
+        rule(x, "shames last*20; costs 0; worth last*9-doing;");
+        x.witness(0, 1, 1);
+        x.witness(0, 1, 1);
+        due("next(1)", x.next(1), 1024);
+        due("safest(1)", x.safest(1), 1024);
+        x.set(4, 0, 1);
+        due("all(0)", x.all(0), 1024);
+        due("all(1)", x.all(1), 1);
+        due("canBe(0)", x.canBe(0), 2);
+        due("fit(0)", x.fit(0), 211111);
+        due("fit(1023)", x.fit(1023), 244444);
+        due("life(1, 0)", x.life(1, 0), 244441);
+        due("life(1, 1)", x.life(1, 1), 9 - 1 + 4 * 24);
+        due("life(0, 0)", x.life(0, 0), 211111);
+        due("life(0, 1)", x.life(0, 1), 20);
+        x.film(0, 0);
+        due("tells(0, 0, 1)", x.tells(0, 0, 1), 1024);
+        due("tells(0, 0, 2)", x.tells(0, 0, 2), 211111);
+    }
+
+    /** What fits follows whatever it hangs on, one after the other. */
+    private static void learntAnew() {
+        ToldByWitnesses x = made(1, 1, 1, 1, 1, 1);
+        rule(x, "shames (age<41)*99; costs 0; worth 0;");
+        x.witness(0, 9, 63);
+        x.set(4, 0, 1);
+        due("all(0): all is hidden", x.all(0), 4096);
+        x.set(0, 0, 40);
+        due("all(0): steps 1 .. 5 are told", x.all(0), 4);
+        due("all(1)", x.all(1), 62);
+        x.set(0, 0, 36);
+        due("all(1): step 5 is told", x.all(1), 32);
+        x.set(0, 0, 41);
+        due("all(0): all is told", x.all(0), 1);
+        x.set(3, 0, 1);
+        due("all(0): one was seen", x.all(0), 1024);
+        x.force(0);
+        x.set(2, 0, 0);
+        due("canBe(0): told is 0 alone", x.canBe(0), 14);
+        x.set(2, 0, 2);
+        due("canBe(0)", x.canBe(0), 2);
+        x.set(1, 0, 2);
+        due("canBe(0)", x.canBe(0), 12);
+        x.force(1);
+        due("canBe(0)", x.canBe(0), 4);
+        x.set(0, 0, 0);
+        due("canBe(0)", x.canBe(0), 15);
     }
 
     /** That a WIDOW says nothing tells as well: only the shameful doing would be hidden. */
@@ -630,6 +692,11 @@ public final class PromisesTest {
         due("life(0, 1)", x.life(0, 1), 42);
         due("of like ones the first", x.life(1, 0), 311113);
         due("life(1, 1)", x.life(1, 1), -30);
+        rule(x, "shames number+seen+(age=33)*(doing<2)*5; costs 0; worth number+seen+(age=32)*doing;");
+        due("shame by the age", x.life(0, 1), 0);
+        due("life(0, 0)", x.life(0, 0), 311313);
+        due("worth by the age", x.life(1, 1), 3);
+        due("life(1, 0)", x.life(1, 0), 314113);
         rule(x, "shames (last<doing)*9+(doing=0)*5; costs 0; worth (doing=1)*(last=2)*9-(doing=2);");
         x.set(4, 0, 0);
         due("shame by the step ahead", x.life(0, 1), 9);
@@ -699,6 +766,19 @@ public final class PromisesTest {
         due("safest(2)", x.safest(2), BAD);
         due("safest(-1)", x.safest(-1), BAD);
         safestByWhatStandsAhead();
+        safestOfUnlikeParts();
+    }
+
+    /** A LANDLADY tells 5 of two doings and 4 of one, once it is known that the first doing isn't 0. */
+    private static void safestOfUnlikeParts() {
+        ToldByWitnesses x = made(1);
+        x.witness(0, 0, 1);
+        x.witness(2, 0, 1);
+        x.set(4, 0, 1);
+        due("all(0)", x.all(0), 3 * 1024);
+        due("next(1)", x.next(1), 1024);
+        due("safest(0)", x.safest(0), 1);
+        due("safest(1)", x.safest(1), 2 * 1024);
     }
 
     private static void safestByWhatStandsAhead() {
@@ -767,6 +847,12 @@ public final class PromisesTest {
         x.witness(3, 0, 63);
         x.witness(3, 0, 63);
         due("wrong(): nothing is above 20", x.wrong(), NONE);
+        x.set(1, 0, 3);
+        due("wrong(): of step 0 alone", x.wrong(), 3);
+        x.set(1, 0, 1);
+        ToldByWitnesses y = made(2);
+        y.witness(3, 0, 1);
+        due("wrong(): the first", y.wrong(), 0);
         x.set(1, 5, 2);
         due("wrong()", x.wrong(), 3);
         x.set(3, 3, 31);
@@ -815,6 +901,10 @@ public final class PromisesTest {
         due("tells the first life", x.tells(0, 0, 2), 311111);
         row(x, 0, 2, 9, 9, 9, 9, 9, 9);
         due("tells what none says", x.tells(0, 0, 1), 0);
+        x.witness(1, 0, 63);
+        row(x, 0, 2, 0, 1, 2, 3, 2, 1);
+        due("tells what is said by one life", x.tells(0, 1, 1), 1);
+        due("tells that life", x.tells(0, 1, 2), 123432);
     }
 
     private static void tellsOfManyKinds() {
