@@ -196,44 +196,11 @@ public final class ToldByWitnesses {
     // ---- whom to send for
 
     public int next(int what) {
-        if (!isWithin(what, 1)) {
-            return BAD;
-        }
-        compareWith(theLife);
-        int sent = sentBits();
-        int best = NONE;
-        int fewest = 0;
-        for (int i = 0; i < witnessCount; i++) {
-            if ((sent >> i & 1) == 0) {
-                int left = lives.fitting(sent | 1 << i);
-                if (best == NONE || left < fewest) {
-                    best = i;
-                    fewest = left;
-                }
-            }
-        }
-        return what == 0 ? best : best == NONE ? lives.fitting(sent) : fewest;
+        return isWithin(what, 1) ? bestToSendFor(what, false) : BAD;
     }
 
     public int safest(int what) {
-        if (!isWithin(what, 1)) {
-            return BAD;
-        }
-        compareWith(theLife);
-        int sent = sentBits();
-        int best = NONE;
-        int fewest = 0;
-        for (int i = 0; i < witnessCount; i++) {
-            Witness witness = witnessAt(i);
-            if (witness != null && witness.sent == 0) {
-                int left = lives.mostToldAlike(sent, witness.says);
-                if (best == NONE || left < fewest) {
-                    best = i;
-                    fewest = left;
-                }
-            }
-        }
-        return what == 0 ? best : best == NONE ? lives.fitting(sent) : fewest;
+        return isWithin(what, 1) ? bestToSendFor(what, true) : BAD;
     }
 
     public int fewest(int what) {
@@ -619,6 +586,25 @@ public final class ToldByWitnesses {
                 lives.markAlike(witness.says, that, 1 << i);
             }
         }
+    }
+
+    /** By whom fewest lives are left, by THE LIFE or at worst: who it is (what 0), how many are left. */
+    private int bestToSendFor(int what, boolean atWorst) {
+        compareWith(theLife);
+        int sent = sentBits();
+        int best = NONE;
+        int fewest = lives.fitting(sent);
+        for (int i = 0; i < witnessCount; i++) {
+            Witness witness = witnessAt(i);
+            if (witness != null && witness.sent == 0) {
+                int left = atWorst ? lives.mostToldAlike(sent, witness.says) : lives.fitting(sent | 1 << i);
+                if (best == NONE || left < fewest) {
+                    best = i;
+                    fewest = left;
+                }
+            }
+        }
+        return what == 0 ? best : fewest;
     }
 
     /** Of the sets that leave this many lives, the one of fewest or least price; of like ones the least as bits. */
