@@ -1,6 +1,6 @@
 import java.util.function.ToLongFunction;
 
-/** Tests that each bear one sentence of the document, on objects of their own, and what they make use of. */
+/** Tests that each bear one sentence of the document, on objects that no other changes, and what they make use of. */
 abstract class SentenceTests {
     static final int NONE = -1, BAD = -2, STATE = -3, FULL = -4;
     static final int NOTHING = -11, OUTSIDE = -12, UNLIKE = -13, BELOW = -14, UNASKED = -100000;
