@@ -1173,6 +1173,7 @@ public final class ToldByWitnesses {
 
         // What follows reads tokens from the one that stands at AT on; when it answers false, that one
         // can't stand there. OPEN is how many of ( , not and - ahead of a ONE are open.
+        // Going round leads through readLink(), since a method may not call itself here (LANGUAGE.md, 8).
 
         private int sign() {
             return at >= 0 && at < signs.length ? signs[at] : Signs.UNKNOWN;
@@ -1240,7 +1241,7 @@ public final class ToldByWitnesses {
                     return false;
                 }
                 at++;
-                return readNot(open + 1) && emit(Signs.NOT);
+                return readLink(BOTH, open + 1) && emit(Signs.NOT);
             }
             if (!readChain(SUM, open)) {
                 return false;
@@ -1264,7 +1265,7 @@ public final class ToldByWitnesses {
             }
             at++;
             if (sign == Signs.MINUS) {
-                return readOne(open + 1) && emit(Signs.NEGATE);
+                return readLink(TERM, open + 1) && emit(Signs.NEGATE);
             }
             return readChain(ANY, open + 1) && take(Signs.CLOSE);
         }
@@ -1478,12 +1479,17 @@ public final class ToldByWitnesses {
             for (int told = Kinds.LEAST_SAID; step < STEPS && told <= Kinds.MOST_SAID; told++) {
                 int bound = spread(who, says, step, told);
                 if (bound > found) {
-                    if (step == STEPS - 1) {
-                        found = bound;
-                    } else {
-                        follow(who, says, step + 1);
-                    }
+                    reach(who, says, step + 1, bound);
                 }
+            }
+        }
+
+        /** What is told up to this step may leave so many; behind the last step it does. */
+        private void reach(int who, int[] says, int step, int bound) {
+            if (step < STEPS) {
+                follow(who, says, step);
+            } else {
+                found = bound;
             }
         }
 
